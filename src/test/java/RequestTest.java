@@ -53,13 +53,13 @@ final class RequestTest {
     }
 
     /** A chain whose upper nodes have more: d may borrow of c, c of b, b of a. */
-    private static RateLimiter chain(String ofC) {
-        return Checks.loaded("node a rate 0 ceiling 99 burst 90;node b in a rate 0 ceiling 99 burst 70;node c in b rate 0"
-                + " ceiling 99 burst 80" + ofC + ";node d in c rate 0 ceiling 99 burst 99;");
+    private static RateLimiter chain() {
+        return Checks.loaded("node a rate 0 ceiling 99 burst 90;node b in a rate 0 ceiling 99 burst 70;"
+                + "node c in b rate 0 ceiling 99 burst 80;node d in c rate 0 ceiling 99 burst 99;");
     }
 
     private static void lenders() {
-        RateLimiter x = chain("");
+        RateLimiter x = chain();
         x.acquire(3, 70);
         x.advance(1);
         // Tokens now: a 20, b 0, c 10, d 29; all headroom is full.
@@ -96,13 +96,6 @@ final class RequestTest {
         y.acquire(1, 60);
         y.advance(1);
         CHECKS.due("lender(1, 40)", y.lender(1, 40), 0);
-        RateLimiter z = chain(" alone");
-        z.advance(1);
-        z.acquire(3, 70);
-        z.advance(1);
-        z.acquire(3, 29);
-        // b and a have no tokens left here either; c is alone and so the last that is asked.
-        CHECKS.due("lender(3, 1)", z.lender(3, 1), NONE);
         RateLimiter w = Checks.loaded("node a burst 99 ceiling 99 rate 99;node b in a burst 99 ceiling 99 rate 0 alone;"
                 + "node c in b burst 99 ceiling 99 rate 0;");
         w.acquire(2, 60);
