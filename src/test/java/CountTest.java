@@ -138,6 +138,7 @@ final class CountTest {
         CHECKS.due("mostServed()", x.mostServed(), 3);
         x.setWeight(1, 1);
         CHECKS.due("mostServed() after setWeight", x.mostServed(), 1);
+        CHECKS.due("mostServed() of one leaf", Checks.loaded("node a;").mostServed(), 0);
     }
 
     private static void emptyLog() {
@@ -181,6 +182,10 @@ final class CountTest {
         }
         logged(x, 24, NONE, NONE, NONE, NONE);
         logged(x, -1, INVALID, INVALID, INVALID, INVALID);
+        x.save(0);
+        x.acquire(2, 5);
+        logged(x, 0, 2, 5, 2, 41);
+        x.restore(0);
         CHECKS.due("recentCost(MAX)", x.recentCost(Integer.MAX_VALUE), 24 * (17 + 40) / 2);
         CHECKS.due("busiestCost(MAX)", x.busiestCost(Integer.MAX_VALUE), 24 * (17 + 40) / 2);
         CHECKS.due("sentCount(1)", x.sentCount(1), 28);

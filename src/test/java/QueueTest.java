@@ -75,6 +75,19 @@ final class QueueTest {
         }
         CHECKS.due("requestAt(1, 16)", x.requestAt(1, 16), NONE);
         CHECKS.due("nextLeaf()", x.nextLeaf(), NONE);
+        RateLimiter y = Checks.loaded("node a burst 999 ceiling 999 rate 99;limit 1;");
+        for (int i = 0; i < 16; i++) {
+            y.enqueue(0, 60 + i);
+        }
+        CHECKS.due("costAt(0, 0)", y.costAt(0, 0), 60);
+        for (int sent = 1; sent <= 16; sent++) {
+            CHECKS.due("advance(1)", y.advance(1), 1);
+            for (int place = 0; place < 16; place++) {
+                CHECKS.due("costAt(0, place)", y.costAt(0, place), place + sent < 16 ? 60 + place + sent : NONE);
+                CHECKS.due("requestAt(0, place)", y.requestAt(0, place), place + sent < 16 ? place + sent : NONE);
+                CHECKS.due("ageAt(0, place)", y.ageAt(0, place), place + sent < 16 ? sent : NONE);
+            }
+        }
     }
 
     private static void firstInFirstOut() {

@@ -23,6 +23,7 @@ final class RequestTest {
         repeatsInThought();
         refusals();
         blocking();
+        twelveNodes();
         CHECKS.finish();
     }
 
@@ -132,6 +133,8 @@ final class RequestTest {
         x.setCeiling(2, 4);
         x.advance(1);
         CHECKS.due("greatestCost(2), borrowing", x.greatestCost(2), 4);
+        x.acquire(2, 3);
+        CHECKS.due("greatestCost(2), least headroom", x.greatestCost(2), 1);
         RateLimiter y = Checks.loaded("node a rate 0 ceiling 99 burst 9 credit 30;");
         y.acquire(0, 9);
         y.advance(1);
@@ -267,6 +270,32 @@ final class RequestTest {
         RateLimiter y = Checks.loaded("node a rate 9 burst 20 ceiling 9 credit 99;");
         CHECKS.due("waitTime(0, 20)", y.waitTime(0, 20), 0);
         CHECKS.due("waitTime(0, 21) above the burst", y.waitTime(0, 21), NONE);
+        RateLimiter z = Checks.loaded("node a rate 9 burst 40 ceiling 99 credit 30;");
+        z.advance(3);
+        z.acquire(0, 33);
+        // Tokens 7, credit 27 and headroom 7; the headroom is full after a tick.
+        CHECKS.due("waitTime(0, 7)", z.waitTime(0, 7), 0);
+        CHECKS.due("waitTime(0, 34), paid by credit", z.waitTime(0, 34), 1);
+        z.setRate(0, 2);
+        CHECKS.due("waitTime(0, 35)", z.waitTime(0, 35), 1);
+        CHECKS.due("waitTime(0, 36)", z.waitTime(0, 36), 1);
+        CHECKS.due("waitTime(0, 37)", z.waitTime(0, 37), 2);
+        CHECKS.due("waitTime(0, 40)", z.waitTime(0, 40), 3);
+        z.setRate(0, 0);
+        CHECKS.due("waitTime(0, 34), rate 0", z.waitTime(0, 34), 1);
+        CHECKS.due("waitTime(0, 35), rate 0", z.waitTime(0, 35), NONE);
+        z.setCeiling(0, 0);
+        CHECKS.due("waitTime(0, 7), ceiling 0", z.waitTime(0, 7), 0);
+        CHECKS.due("waitTime(0, 8), ceiling 0", z.waitTime(0, 8), NONE);
+        CHECKS.due("waitTime(0, 99)", z.waitTime(0, 99), NONE);
+        // A lender with few tokens, but a credit that can hold what the burst can't.
+        RateLimiter w = Checks.loaded("node a rate 5 burst 10 ceiling 99 credit 99;node b in a burst 99 ceiling 99;");
+        CHECKS.due("waitTime(1, 11), headroom of the root", w.waitTime(1, 11), NONE);
+        RateLimiter v = Checks.loaded("node a burst 99 ceiling 99 rate 0;"
+                + "node b in a rate 5 burst 50 ceiling 99 credit 40 alone;node c in b rate 0 burst 60 ceiling 99;");
+        CHECKS.due("waitTime(2, 50)", v.waitTime(2, 50), 0);
+        v.acquire(2, 50);
+        CHECKS.due("waitTime(2, 50)", v.waitTime(2, 50), 10);
     }
 
     private static void waitLooksAtNeitherQueuesNorChanges() {
@@ -346,5 +375,38 @@ final class RequestTest {
         CHECKS.due("blockingNode(3, 21)", x.blockingNode(3, 21), 2);
         CHECKS.due("blockingNode(3, 31)", x.blockingNode(3, 31), 2);
         CHECKS.due("blockingNode(3, 41)", x.blockingNode(3, 41), 3);
+    }
+
+    /** A chain of all nodes: the longest path, with the last of all numbers for its leaf. */
+    private static void twelveNodes() {
+        StringBuilder text = new StringBuilder("node a rate 50 ceiling 99 burst 99;");
+        for (int i = 1; i < 12; i++) {
+            text.append("node ").append((char) ('a' + i)).append(" in ").append((char) ('a' + i - 1));
+            text.append(" rate 0 ceiling 99 burst 99;");
+        }
+        RateLimiter x = Checks.loaded(text.toString());
+        CHECKS.due("acquire(11, 99)", x.acquire(11, 99), 0);
+        for (int node = 0; node < 12; node++) {
+            CHECKS.due("tokens(" + node + ")", x.tokens(node), 0);
+            CHECKS.due("headroom(" + node + ")", x.headroom(node), 0);
+        }
+        CHECKS.due("blockingNode(11, 1)", x.blockingNode(11, 1), 11);
+        CHECKS.due("waitTime(11, 50)", x.waitTime(11, 50), 1);
+        CHECKS.due("waitTime(11, 51)", x.waitTime(11, 51), 2);
+        x.enqueue(11, 40);
+        CHECKS.due("advance(1)", x.advance(1), 1);
+        CHECKS.due("lentCost(0)", x.lentCost(0), 40);
+        CHECKS.due("borrowedCost(11)", x.borrowedCost(11), 40);
+        CHECKS.due("lender(11, 10)", x.lender(11, 10), 0);
+        CHECKS.due("repeats(11, 2)", x.repeats(11, 2), 5);
+        CHECKS.due("acquire(11, 10)", x.acquire(11, 10), 11);
+        CHECKS.due("mostServed()", x.mostServed(), 11);
+        CHECKS.due("fairShare(11)", x.fairShare(11), 149);
+        CHECKS.due("fairness()", x.fairness(), 1000);
+        x.setRate(11, 3);
+        CHECKS.due("isOversubscribed(10)", x.isOversubscribed(10), true);
+        CHECKS.due("isOversubscribed(11)", x.isOversubscribed(11), false);
+        CHECKS.due("drainTime(11)", x.drainTime(11), 0);
+        CHECKS.due("nextLeaf()", x.nextLeaf(), NONE);
     }
 }

@@ -17,6 +17,8 @@ final class SetupTest {
         firstFaultCounts();
         loadReplaces();
         loadWithFaultKeeps();
+        loadLeavesNothingBehind();
+        loadAfterFault();
         CHECKS.finish();
     }
 
@@ -319,5 +321,60 @@ final class SetupTest {
         CHECKS.due("load of nothing", x.load(), 0);
         CHECKS.due("faultCode()", x.faultCode(), 0);
         CHECKS.due("faultPosition()", x.faultPosition(), RateLimiter.NONE);
+    }
+
+    /** Several loads one after the other, since the object may use its rows in turn. */
+    private static void loadLeavesNothingBehind() {
+        RateLimiter x = new RateLimiter();
+        for (int turn = 0; turn < 4; turn++) {
+            CHECKS.due("load", Checks.load(x, "node a alone;node b in a alone;node c in b alone;limit 3;age 4;"
+                    + "at 9 c rate 9;"), 3);
+            x.enqueue(2, 5);
+            CHECKS.due("depth(2)", x.depth(2), 2);
+            CHECKS.due("load", Checks.load(x, "node a rate 9 burst 9 credit 50;"), 1);
+            CHECKS.due("isLeaf(0)", x.isLeaf(0), true);
+            CHECKS.due("mayBorrow(0)", x.mayBorrow(0), true);
+            CHECKS.due("text", Checks.setupText(x),
+                    "node a rate 9 ceiling 9 burst 9 credit 50 weight 1 priority 0;limit 10;");
+            CHECKS.due("enqueue(0, 5)", x.enqueue(0, 5), 0);
+            x.acquire(0, 9);
+            x.advance(9);
+            CHECKS.due("credit(0)", x.credit(0), 50);
+            for (int i = 0; i < 20; i++) {
+                x.enqueue(0, 9);
+            }
+            CHECKS.due("load", Checks.load(x, "node d;node e in d;node f in d;"), 3);
+            CHECKS.due("depth(2)", x.depth(2), 1);
+            CHECKS.due("isLeaf(1)", x.isLeaf(1), true);
+            CHECKS.due("mayBorrow(1)", x.mayBorrow(1), true);
+            CHECKS.due("load", Checks.load(x, "node g rate 0 ceiling 9;"), 1);
+            CHECKS.due("mayBorrow(0)", x.mayBorrow(0), true);
+            CHECKS.due("credit(0)", x.credit(0), 0);
+            CHECKS.due("sentCost(0)", x.sentCost(0), 0);
+            CHECKS.due("sentCount(0)", x.sentCount(0), 0);
+            CHECKS.due("droppedCount(0)", x.droppedCount(0), 0);
+            CHECKS.due("queueLength(0)", x.queueLength(0), 0);
+            CHECKS.due("logCount()", x.logCount(), 0);
+        }
+        String lenders = "node a ceiling 99 burst 99;node b in a rate 0 ceiling 9 burst 9;";
+        Checks.load(x, lenders);
+        x.acquire(1, 9);
+        x.advance(1);
+        x.acquire(1, 9);
+        CHECKS.due("lentCost(0)", x.lentCost(0), 9);
+        CHECKS.due("borrowedCost(1)", x.borrowedCost(1), 9);
+        Checks.load(x, lenders);
+        CHECKS.due("lentCost(0)", x.lentCost(0), 0);
+        CHECKS.due("borrowedCost(1)", x.borrowedCost(1), 0);
+    }
+
+    private static void loadAfterFault() {
+        RateLimiter x = new RateLimiter();
+        for (String text : new String[] {"node", "node a", "node a;node b", "node a rate", "limit", "limit 5", "age",
+            "age 5", "at", "node a;at 1", "node a;at 1 a", "node a;at 1 a rate", "node a;at 1 a rate 1"}) {
+            CHECKS.due("load of '" + text + "'", Checks.load(x, text), RateLimiter.INVALID);
+            CHECKS.due("load", Checks.load(x, "limit 1;age 2;node a;at 1 a rate 2;node b in a;"), 2);
+            CHECKS.due("faultCode()", x.faultCode(), 0);
+        }
     }
 }
