@@ -1404,6 +1404,9 @@ public final class RateLimiter {
         }
 
         void send(Setup setup, int leaf, int lender, int cost) {
+            if (!setup.hasNode(leaf) || !setup.hasNode(lender)) {
+                return;
+            }
             accounts.pay(setup, leaf, lender, cost);
             counts.countSent(leaf, lender, cost);
             log.add(leaf, cost, lender, time);

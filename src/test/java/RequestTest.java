@@ -408,5 +408,8 @@ final class RequestTest {
         CHECKS.due("isOversubscribed(11)", x.isOversubscribed(11), false);
         CHECKS.due("drainTime(11)", x.drainTime(11), 0);
         CHECKS.due("nextLeaf()", x.nextLeaf(), NONE);
+        RateLimiter y = Checks.loaded(text.toString().replace("ceiling 99 burst 99;node b", "burst 9;node b"));
+        CHECKS.due("blockingNode(11, 10)", y.blockingNode(11, 10), 0);
+        CHECKS.due("pathCeiling(11)", y.pathCeiling(11), 50);
     }
 }
