@@ -3,6 +3,7 @@ import java.nio.charset.StandardCharsets;
 /** Compares answers with those that are due, and counts them. */
 final class Checks {
     private final String title;
+    private String sentence = "";
     private int passed = 0;
     private int failed = 0;
 
@@ -10,14 +11,33 @@ final class Checks {
         this.title = title;
     }
 
+    /** Runs the test of one sentence of the document. A test that compares nothing fails, and so does one that throws. */
+    void test(String ofSentence, Runnable test) {
+        sentence = " [" + ofSentence + "]";
+        int before = passed + failed;
+        try {
+            test.run();
+        } catch (RuntimeException thrown) {
+            fail("the test threw " + thrown);
+        }
+        if (passed + failed == before) {
+            fail("nothing was compared");
+        }
+        sentence = "";
+    }
+
+    private void fail(String why) {
+        failed++;
+        if (failed <= 50) {
+            System.out.println(title + sentence + ": " + why);
+        }
+    }
+
     void due(String call, long got, long want) {
         if (got == want) {
             passed++;
-            return;
-        }
-        failed++;
-        if (failed <= 50) {
-            System.out.println(title + ": " + call + " answered " + got + ", due is " + want);
+        } else {
+            fail(call + " answered " + got + ", due is " + want);
         }
     }
 
