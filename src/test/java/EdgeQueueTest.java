@@ -37,6 +37,7 @@ final class EdgeQueueTest {
         CHECKS.test("promise 36: queuedCost 0 and the greatest", EdgeQueueTest::queuedCosts);
         CHECKS.test("promise 37: requestAt, no leaf", () -> Wrong.leaves(CHECKS, "requestAt", (x, leaf) -> x.requestAt(leaf, 0)));
         CHECKS.test("promise 37: NONE if there is none", () -> places(RateLimiter::requestAt, 40));
+        CHECKS.test("promises 37 to 39: the front of the root's queue, if it is the only node", EdgeQueueTest::frontOfRoot);
         CHECKS.test("promise 37: INVALID also if the place is negative", () -> negativePlaces(RateLimiter::requestAt));
         CHECKS.test("promise 38: costAt, no leaf", () -> Wrong.leaves(CHECKS, "costAt", (x, leaf) -> x.costAt(leaf, 0)));
         CHECKS.test("promise 38: NONE likewise", () -> places(RateLimiter::costAt, 60));
@@ -420,6 +421,21 @@ final class EdgeQueueTest {
         CHECKS.due("place 15 of an empty queue", at.of(x, 2, 15), NONE);
         CHECKS.due("place 99 of no leaf", at.of(x, 0, 99), INVALID);
         CHECKS.due("place 99 of no node", at.of(x, 3, 99), INVALID);
+    }
+
+    private static void frontOfRoot() {
+        RateLimiter x = Checks.loaded("node a burst 1 rate 0;");
+        CHECKS.due("requestAt(0, 0), empty", x.requestAt(0, 0), NONE);
+        CHECKS.due("costAt(0, 0), empty", x.costAt(0, 0), NONE);
+        CHECKS.due("ageAt(0, 0), empty", x.ageAt(0, 0), NONE);
+        for (int number = 0; number < 3; number++) {
+            x.clearQueue(0);
+            x.enqueue(0, 99 - number);
+            x.advance(2);
+            CHECKS.due("requestAt(0, 0)", x.requestAt(0, 0), number);
+            CHECKS.due("costAt(0, 0)", x.costAt(0, 0), 99 - number);
+            CHECKS.due("ageAt(0, 0)", x.ageAt(0, 0), 2);
+        }
     }
 
     private static void negativePlaces(At at) {

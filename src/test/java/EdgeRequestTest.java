@@ -5,6 +5,7 @@ final class EdgeRequestTest {
     private static final int NONE = RateLimiter.NONE;
 
     public static void main(String[] args) {
+        CHECKS.test("the description: an object is used for 512 calls", EdgeRequestTest::lastOfManyCalls);
         CHECKS.test("section 3: headroom equal to the cost is enough, of every node", EdgeRequestTest::headroomEqual);
         CHECKS.test("section 3: tokens equal to the cost are enough, one less asks the parent", EdgeRequestTest::tokensEqual);
         CHECKS.test("section 3: tokens and credit together", EdgeRequestTest::tokensAndCredit);
@@ -93,6 +94,23 @@ final class EdgeRequestTest {
             x.setRate(node, 0);
         }
         return x;
+    }
+
+    /** The setup takes four calls of the 512. */
+    private static void lastOfManyCalls() {
+        RateLimiter x = Checks.loaded("node a rate 0 burst 1;");
+        for (int number = 0; number < 169; number++) {
+            CHECKS.due("enqueue(0, 2)", x.enqueue(0, 2), number);
+            CHECKS.due("requestAt(0, 0)", x.requestAt(0, 0), number);
+            CHECKS.due("clearQueue(0)", x.clearQueue(0), 1);
+        }
+        CHECKS.due("enqueue(0, 2), call 512", x.enqueue(0, 2), 169);
+        RateLimiter y = Checks.loaded("node a rate 99 ceiling 999 burst 999;");
+        for (int sent = 1; sent <= 253; sent++) {
+            CHECKS.due("acquire(0, 99)", y.acquire(0, 99), 0);
+            y.advance(1);
+        }
+        CHECKS.due("sentCost(0), call 511", y.sentCost(0), 253 * 99);
     }
 
     // ---- section 3

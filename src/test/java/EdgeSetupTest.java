@@ -73,6 +73,7 @@ final class EdgeSetupTest {
         CHECKS.test("section 5, code 5: a 13th node", EdgeSetupTest::thirteenthNode);
         CHECKS.test("section 5, code 5: a 13th timed change", EdgeSetupTest::thirteenthChange);
         CHECKS.test("section 5: a setup without a fault replaces everything", EdgeSetupTest::replacesEverything);
+        CHECKS.test("section 5: nor is anything left after several loads, some with a fault", EdgeSetupTest::replacesAgain);
         CHECKS.test("section 5: a setup without nodes, there are no leaves then", EdgeSetupTest::noNodesNoLeaves);
         CHECKS.finish();
     }
@@ -792,6 +793,35 @@ final class EdgeSetupTest {
         y.load();
         CHECKS.due("all answers after load of nothing", Twins.answers(y), Twins.answers(new RateLimiter()));
         CHECKS.due("all that is hidden", Twins.hidden(y), Twins.hidden(new RateLimiter()));
+    }
+
+    private static void replacesAgain() {
+        String long1 = "node a alone rate 9;node b in a alone;node c in b alone weight 2;limit 3;age 4;at 9 c rate 9;";
+        String short1 = "node d burst 50;node e in d;node f in d;";
+        for (String between : new String[] {"", "node x", long1 + "!", "limit 3;age 4;node a alone;at 1 a rate 7;node"}) {
+            RateLimiter x = Checks.loaded(long1);
+            for (int turn = 0; turn < 3; turn++) {
+                Checks.load(x, between);
+                CHECKS.due("load", Checks.load(x, short1), 3);
+                CHECKS.due("faultCode()", x.faultCode(), 0);
+                CHECKS.due("isLeaf(0)", x.isLeaf(0), false);
+                CHECKS.due("isLeaf(1)", x.isLeaf(1), true);
+                CHECKS.due("depth(2)", x.depth(2), 1);
+                CHECKS.due("mayBorrow(0)", x.mayBorrow(0), true);
+            }
+            Checks.load(x, between);
+            CHECKS.due("load", Checks.load(x, short1), 3);
+            RateLimiter fresh = Checks.loaded(short1);
+            CHECKS.due("all answers", Twins.answers(x), Twins.answers(fresh));
+            CHECKS.due("all that is hidden", Twins.hidden(x), Twins.hidden(fresh));
+        }
+        RateLimiter y = Checks.loaded("node a;node b in a;");
+        CHECKS.due("load", Checks.load(y, "node c;"), 1);
+        CHECKS.due("load", Checks.load(y, "node d;node e in d;node f in e;"), 3);
+        CHECKS.due("depth(2)", y.depth(2), 2);
+        CHECKS.due("load", Checks.load(y, "node g;"), 1);
+        CHECKS.due("depth(0)", y.depth(0), 0);
+        CHECKS.due("isLeaf(0)", y.isLeaf(0), true);
     }
 
     private static void noNodesNoLeaves() {

@@ -8,16 +8,22 @@ import java.util.function.Consumer;
 final class Twins {
     private static final String SETUP = "node a rate 9 ceiling 40 burst 60 credit 30;"
             + "node b in a rate 2 ceiling 20 burst 30 weight 3;node c in a rate 0 ceiling 5 burst 9 credit 3 priority 2 alone;"
-            + "limit 4;age 7;at 3 b rate 1;at 20 c weight 4;";
+            + "limit 4;age 3;at 3 b rate 1;at 20 c weight 4;";
 
     private Twins() {
     }
 
-    /** Time 4; leaf 1 holds costs 31 and 4, leaf 2 holds 9 and 3; snapshot 0 is of time 2; the buffer holds "node q;node". */
+    /**
+     * The time is 4. Leaf 1 has borrowed 25, both leaves have dropped a request, leaf 1 holds the costs 31 and 4, leaf 2
+     * holds 9 and 3, and none can be sent but 4. Snapshot 0 is of the time 2, snapshot 1 is not stored.
+     */
     static RateLimiter busy() {
         RateLimiter x = Checks.loaded(SETUP);
         x.acquire(1, 12);
+        x.enqueue(1, 31);
+        x.enqueue(2, 30);
         x.advance(2);
+        x.acquire(1, 25);
         x.acquire(2, 8);
         x.enqueue(2, 9);
         x.enqueue(2, 3);
@@ -41,8 +47,16 @@ final class Twins {
         checks.due(calls + " leave(s) all that is hidden as it was", hidden(asked), hidden(twin));
     }
 
-    /** The test of this class: each change shows in the answers, or at least in what is hidden. */
+    /** The test of this class: the object is busy, and each change shows in the answers or at least in what is hidden. */
     static void changesShow(Checks checks) {
+        RateLimiter busy = busy();
+        checks.due("borrowedCost(1)", busy.borrowedCost(1), 25);
+        checks.due("lentCost(0)", busy.lentCost(0), 25);
+        for (int leaf = 1; leaf < 3; leaf++) {
+            checks.due("droppedCount", busy.droppedCount(leaf), 1);
+            checks.due("queueLength", busy.queueLength(leaf), 2);
+        }
+        checks.due("logCount()", busy.logCount(), 4);
         shows(checks, "feed", x -> x.feed(0, 0, 0, 0, 0));
         shows(checks, "truncate", x -> x.truncate(7));
         shows(checks, "load", x -> x.load());
