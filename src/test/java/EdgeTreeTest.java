@@ -129,6 +129,9 @@ final class EdgeTreeTest {
     private static void longestPath() {
         RateLimiter x = Checks.loaded(chain(12, " rate 0 ceiling 99 burst 9"));
         x.acquire(11, 9);
+        CHECKS.due("blockingNode(11, 1), all", x.blockingNode(11, 1), 11);
+        x.setRate(0, 5);
+        CHECKS.due("waitTime(11, 9), the root's tokens", x.waitTime(11, 9), 2);
         x.setRate(0, 9);
         x.advance(1);
         CHECKS.due("lender(11, 9)", x.lender(11, 9), 0);
@@ -136,6 +139,13 @@ final class EdgeTreeTest {
         for (int node = 0; node < 12; node++) {
             CHECKS.due("headroom(" + node + ")", x.headroom(node), 0);
         }
+        RateLimiter y = Checks.loaded(chain(12, " burst 9").replace("node a burst 9;", "node a burst 8;"));
+        CHECKS.due("blockingNode(11, 9), the root", y.blockingNode(11, 9), 0);
+        CHECKS.due("refusal(11, 9), the root's headroom", y.refusal(11, 9), 1);
+        CHECKS.due("lender(11, 9)", y.lender(11, 9), NONE);
+        CHECKS.due("waitTime(11, 9), the root's burst", y.waitTime(11, 9), NONE);
+        CHECKS.due("repeats(11, 1)", y.repeats(11, 1), 8);
+        CHECKS.due("greatestCost(11)", y.greatestCost(11), 8);
     }
 
     private static void rootAlone() {
